@@ -201,9 +201,10 @@ public final class PromisesTest {
         DUE.due("5 BAD before NULL", x.draw(0, 3, 0, 4), -1);
         DUE.due("5 NULL before INDEX", x.draw(0, 1, -1, 4), -11);
         DUE.due("5 CAST before INDEX", x.draw(1, 0, -1, 4), -13);
-        for (int i = 0; i < 24; i++) {
+        for (int i = 0; i < 23; i++) {
             x.row(1, 0);
         }
+        DUE.due("5 room for one", x.draw(1, 1, 0, 4), 23);
         DUE.due("5 FULL", x.draw(1, 1, 0, 4), -3);
         DUE.due("5 BAD before FULL", x.draw(1, 1, 0, 33), -1);
         DUE.due("5 NULL before FULL", x.draw(0, 1, 0, 4), -11);
@@ -331,7 +332,8 @@ public final class PromisesTest {
         x.row(32, 1);
         x.turn(4, 0);
         DUE.due("14 BACK of 32", x.number(5), 0x80000000L);
-        x = withRows(24);
+        x = withRows(23);
+        DUE.due("14 room for one", x.turn(0, 0), 23);
         DUE.due("14 FULL", x.turn(0, 0), -3);
         DUE.due("14 BAD before FULL", x.turn(0, 3), -1);
         DUE.due("14 BAD before FULL", x.turn(24, 0), -1);
@@ -356,7 +358,8 @@ public final class PromisesTest {
         DUE.due("15 no row", x.put(-1, 0), -1);
         DUE.due("15 no row", x.put(0, LOWEST), -1);
         DUE.due("15 refused changes nothing", x.count(0), 7);
-        x = withRows(24);
+        x = withRows(23);
+        DUE.due("15 room for one", x.put(0, 1), 23);
         DUE.due("15 FULL", x.put(0, 1), -3);
         DUE.due("15 BAD before FULL", x.put(0, 24), -1);
     }
@@ -380,10 +383,11 @@ public final class PromisesTest {
         DUE.due("16 unlike lengths", x.weave(0, 2), -1);
         DUE.due("16 no row", x.weave(0, 9), -1);
         DUE.due("16 no row", x.weave(-1, 0), -1);
-        x = withRows(23);
+        x = withRows(22);
         x.row(3, 0);
+        DUE.due("16 room for one", x.weave(0, 1), 23);
         DUE.due("16 FULL", x.weave(0, 1), -3);
-        DUE.due("16 BAD before FULL", x.weave(0, 23), -1);
+        DUE.due("16 BAD before FULL", x.weave(0, 22), -1);
     }
 
     private static void times() {
@@ -408,7 +412,8 @@ public final class PromisesTest {
         DUE.due("17 no row", x.times(0, 10), -1);
         DUE.due("17 no row", x.times(-1, 0), -1);
         DUE.due("17 refused changes nothing", x.count(0), 10);
-        x = withRows(24);
+        x = withRows(23);
+        DUE.due("17 room for one", x.times(0, 1), 23);
         DUE.due("17 FULL", x.times(0, 1), -3);
         DUE.due("17 BAD before FULL", x.times(24, 1), -1);
     }
@@ -469,6 +474,7 @@ public final class PromisesTest {
         DUE.due("20 length", x.length(5), 6);
         DUE.due("20 first", x.number(5), 49);
         DUE.due("20 second", x.number(6), 9);
+        DUE.due("20 its length", x.length(6), 6);
         DUE.due("20 32 long", x.doubled(3, 3), 7);
         DUE.due("20 second", x.number(8), 0xFFFE0001L);
         DUE.due("20 34 long", x.doubled(4, 4), -3);
