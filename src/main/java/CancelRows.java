@@ -231,7 +231,7 @@ public final class CancelRows {
         }
         long a = ToldPairs.firstOfSeed(seed);
         long b = ToldPairs.secondOfSeed(seed);
-        for (int m = seed; m < n; m = 2 * m) {
+        for (int m = seed; m > 0 && m < n; m = 2 * m) {
             long longer = Signs.joined(a, m, b);
             b = Signs.joined(a, m, Signs.opposite(b, m));
             a = longer;
@@ -248,7 +248,7 @@ public final class CancelRows {
         if (n % 2 == 1 && n != 1) {
             return 1;
         }
-        if (Squares.ways(n, 2, Squares.rootOf(n)) == 0) {
+        if (Squares.ways(n, 2) == 0) {
             return 2;
         }
         return Squares.hasPrimeOfRestThree(n) ? 3 : 0;
@@ -258,7 +258,7 @@ public final class CancelRows {
         if (!within(many, 1, 4) || !within(n, 0, many <= 2 ? MOST_NUMBER : MOST_NUMBER_OF_MANY)) {
             return BAD;
         }
-        return Squares.ways(n, many, Squares.rootOf(n));
+        return Squares.ways(n, many);
     }
 
     public int pairs(int n, int what) {
@@ -577,15 +577,20 @@ public final class CancelRows {
             return root;
         }
 
-        /** How often n is a sum of many squares, the greatest of no more than most; many is the depth, too. */
-        static int ways(int n, int many, int most) {
+        /** How often n is a sum of many squares (1 to 4), the greater ones ahead. */
+        static int ways(int n, int many) {
+            return waysUpTo(rootOf(n), n, many);
+        }
+
+        /** Of those the ones with no root above most. The depth is many: it falls by one from call to call. */
+        private static int waysUpTo(int most, int n, int many) {
+            int root = rootOf(n);
             if (many <= 1) {
-                int root = rootOf(n);
                 return root <= most && root * root == n ? 1 : 0;
             }
             int ways = 0;
-            for (int a = Math.min(most, rootOf(n)); a >= 0; a--) {
-                ways += ways(n - a * a, many - 1, a);
+            for (int a = Math.min(most, root); a >= 0; a--) {
+                ways += waysUpTo(a, n - a * a, many - 1);
             }
             return ways;
         }
@@ -595,7 +600,7 @@ public final class CancelRows {
          * without such a prime number, a divisor is even or has the rest 1.
          */
         static boolean hasPrimeOfRestThree(int n) {
-            for (int d = 1; d * d <= n; d++) {
+            for (int d = 1; d <= n / d; d++) {
                 if (n % d == 0 && (d % 4 == 3 || n / d % 4 == 3)) {
                     return true;
                 }

@@ -30,6 +30,7 @@ public final class FaceTest {
         face();
         privateNames();
         language();
+        recursion();
         DUE.end();
     }
 
@@ -95,9 +96,28 @@ public final class FaceTest {
         }
     }
 
-    private static void language() throws Exception {
+    private static String code() throws Exception {
         String source = Files.readString(Path.of("src/main/java/CancelRows.java"));
-        String code = source.replaceAll("(?s)/\\*.*?\\*/", "").replaceAll("//[^\n]*", "");
+        return source.replaceAll("(?s)/\\*.*?\\*/", "").replaceAll("//[^\n]*", "");
+    }
+
+    /** A method that calls itself is private and static; a method ends where its own indent comes back. */
+    private static void recursion() throws Exception {
+        String head = "(?m)^( {4}| {8})((?:\\w+ )*)\\w+(?:\\[\\])? (\\w+)\\([^)]*\\) \\{\n";
+        Matcher method = Pattern.compile(head + "(?s:(.*?))\n\\1\\}").matcher(code());
+        int seen = 0;
+        while (method.find()) {
+            String name = method.group(3);
+            if (Pattern.compile("(?<![\\w.])" + name + "\\(").matcher(method.group(4)).find()) {
+                seen++;
+                DUE.holds(name + " calls itself: it is private static", method.group(2).equals("private static "));
+            }
+        }
+        DUE.holds("a method that calls itself is seen", seen > 0);
+    }
+
+    private static void language() throws Exception {
+        String code = code();
         for (String ruledOut : RULED_OUT) {
             Matcher matcher = Pattern.compile(ruledOut).matcher(code);
             DUE.holds("nowhere " + ruledOut, !matcher.find());
